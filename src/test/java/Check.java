@@ -24,7 +24,14 @@ final class Check {
         }
     }
 
-    static void fail(String what, String want, String got) {
+    static void same(String what, String want, String got) {
+        seen++;
+        if (!want.equals(got)) {
+            fail(what, want, got);
+        }
+    }
+
+    private static void fail(String what, String want, String got) {
         wrong++;
         System.out.println(what + ": due is " + want + ", the answer is " + got);
     }
@@ -32,11 +39,7 @@ final class Check {
     /** The call throws just this class, no subclass of the machine's, and changes nothing. */
     static void refused(TickForms form, String what, Class<?> want, Call call) {
         long before = form.digest();
-        seen++;
-        String got = outcome(call);
-        if (!got.equals(want.getName())) {
-            fail(what, want.getName(), got);
-        }
+        same(what, want.getName(), outcome(call));
         due(what + ": digest kept", before, form.digest());
     }
 

@@ -18,6 +18,7 @@ public final class PromisesTest {
         total();
         fullForm();
         drop();
+        dropLeavesNothing();
         answer();
         clear();
         append();
@@ -33,6 +34,7 @@ public final class PromisesTest {
         openParts();
         counts();
         ifAnswered();
+        ifAnsweredLastTotal();
         shortest();
         shortestOfSkips();
         mostCarried();
@@ -215,8 +217,43 @@ public final class PromisesTest {
         }
         Check.due("6 saved", 6, x.count(8));
         Check.refused(x, "6 none left", NOT_NOW, x::drop);
+        Check.due("6 no box wants an answer", NONE, x.count(3));
         Check.due("6 a new box", 0, x.tick(0, 1));
+        Check.due("6 it wants an answer", 0, x.count(3));
         Check.due("6 without the old answer", NONE, x.box(0, 4));
+    }
+
+    /** Six calls of clear() fill up the saved states, so that the digests can be the same. */
+    private static void dropLeavesNothing() {
+        TickForms never = new TickForms();
+        never.comb(0, 2);
+        for (int i = 0; i < 6; i++) {
+            never.clear();
+        }
+        for (int kind = 0; kind < 5; kind++) {
+            TickForms x = new TickForms();
+            x.comb(0, 2);
+            if (kind == 0) {
+                x.comb(0, 1);
+            } else if (kind == 1) {
+                x.tick(0, 1);
+            } else if (kind == 2) {
+                x.skip(0, 1, 0);
+            } else if (kind == 3) {
+                x.total(0, 1);
+            } else {
+                x.comb(2, 1);
+            }
+            for (int i = 0; i < 6; i++) {
+                x.clear();
+            }
+            x.digest();
+            Check.due("6 kind", kind % 4, x.drop());
+            Check.due("6 nothing is left of kind " + kind, never.digest(), x.digest());
+            Check.due("6 all open", 31, x.ifAnswered(0, 5, 1));
+            Check.due("6 no total", NONE, x.ifAnswered(0, 5, 2));
+            Check.due("6 not carried", NONE, x.mostCarried());
+        }
     }
 
     private static void answer() {
@@ -380,6 +417,13 @@ public final class PromisesTest {
             type(z, text);
             Check.due("12 complete " + text, 1, z.fill());
         }
+        type(z, "0=-,0=5,0=-");
+        z.fill();
+        Check.due("12 emptied at the end", NONE, z.box(0, 4));
+        z.answer(0, 7);
+        type(z, "0=-");
+        z.fill();
+        Check.due("12 emptied at the start", NONE, z.box(0, 4));
     }
 
     private static void undo() {
@@ -423,6 +467,11 @@ public final class PromisesTest {
         x.tick(0, 2);
         x.undo();
         x.skip(0, 3, 7);
+        x.drop();
+        x.skip(0, 3, 9);
+        x.undo();
+        x.undo();
+        Check.due("13 the dropped skip's limit", 7, x.box(1, 3));
         x.undo();
         Check.due("13 one box", 1, x.count(0));
         x.fill();
@@ -612,6 +661,7 @@ public final class PromisesTest {
         Check.due("17 parts", 29, x.ifAnswered(0, 0, 1));
         Check.due("17 parts", 31, x.ifAnswered(0, 1, 1));
         Check.due("17 parts", 25, x.ifAnswered(4, 5, 1));
+        Check.due("17 parts", 29, x.ifAnswered(4, 4, 1));
         Check.due("17 the last total", 0, x.ifAnswered(0, 0, 2));
         Check.due("17 the last total", 60, x.ifAnswered(0, 1, 2));
         Check.due("17 a closed comb", 0, x.ifAnswered(1, 999, 2));
@@ -631,6 +681,22 @@ public final class PromisesTest {
         }
     }
 
+    private static void ifAnsweredLastTotal() {
+        TickForms x = new TickForms();
+        x.comb(0, 2);
+        Check.due("17 no total, but a comb", NONE, x.ifAnswered(0, 7, 2));
+        TickForms y = new TickForms();
+        y.total(0, 0);
+        y.tick(0, 1);
+        Check.due("17 a total alone", 0, y.ifAnswered(0, NONE, 2));
+        Check.due("17 a total before", 0, y.ifAnswered(1, 1, 2));
+        TickForms z = new TickForms();
+        z.comb(0, 2);
+        z.total(0, 1);
+        z.total(0, 3);
+        Check.due("17 the last of all boxes", 14, z.ifAnswered(0, 7, 2));
+    }
+
     private static void shortest() {
         TickForms x = new TickForms();
         x.comb(0, 1);
@@ -646,6 +712,7 @@ public final class PromisesTest {
         Check.due("18 an answer stays as it is", 1, x.shortest());
         x.answer(0, 0);
         Check.due("18 whole", 0, x.shortest());
+        dropOfEmptySkip();
         TickForms y = new TickForms();
         y.comb(3, 1);
         y.comb(3, 1);
@@ -657,6 +724,15 @@ public final class PromisesTest {
         Check.due("18 a tick in a part that stays closed", 1, y.shortest());
         y.answer(3, 1);
         Check.due("18 a tick in an open part", 2, y.shortest());
+    }
+
+    private static void dropOfEmptySkip() {
+        TickForms x = new TickForms();
+        x.comb(1, 1);
+        x.comb(1, 1);
+        x.skip(0, 1, 5);
+        x.drop();
+        Check.due("18 a dropped skip closes nothing", 2, x.shortest());
     }
 
     private static void shortestOfSkips() {
@@ -717,6 +793,10 @@ public final class PromisesTest {
         Check.due("19 on two ways it counts once", 2, x.mostCarried());
         x.drop();
         Check.due("19 dropped", 3, x.mostCarried());
+        TickForms y = new TickForms();
+        y.comb(4, 1);
+        y.total(4, 1);
+        Check.due("19 the box 0", 0, y.mostCarried());
     }
 
     private static void filled() {
@@ -736,6 +816,11 @@ public final class PromisesTest {
         Check.dueShare("20 three of four", 0.75, x.filled());
         x.answer(4, 1);
         Check.dueShare("20 all", 1.0, x.filled());
+        Check.due("16 each open box", 5, x.count(1));
+        x.total(0, 0);
+        x.skip(0, 2, 0);
+        x.total(1, 0);
+        Check.dueShare("20 four of five", 0.8, x.filled());
     }
 
     /** The hash, told by the public face as the promise says it. */
