@@ -179,6 +179,9 @@ public final class PromisesTest {
         Check.refused(x, "5 not there", UNFIT, () -> x.total(0, 1 << 15));
         x.drop();
         Check.refused(x, "5 no more there", UNFIT, () -> x.total(0, 32));
+        TickForms y = new TickForms();
+        y.tick(0, 1);
+        Check.refused(y, "5 a tick as the box 0", UNFIT, () -> y.total(0, 1));
     }
 
     private static void fullForm() {
@@ -733,6 +736,11 @@ public final class PromisesTest {
         x.skip(0, 1, 5);
         x.drop();
         Check.due("18 a dropped skip closes nothing", 2, x.shortest());
+        x.skip(0, 1, 5);
+        x.answer(2, 7);
+        x.drop();
+        Check.due("18 nor does its answer", 2, x.shortest());
+        Check.due("15 nor does its answer", 31, x.count(6));
     }
 
     private static void shortestOfSkips() {
