@@ -6,8 +6,18 @@ final class Check {
 
     private static int wrong = 0;
     private static int seen = 0;
+    private static String heading = "";
 
     private Check() {
+    }
+
+    /** What stands ahead of each failure from here on. */
+    static void under(String text) {
+        heading = text.isEmpty() ? "" : "[" + text + "] ";
+    }
+
+    static int seen() {
+        return seen;
     }
 
     static void due(String what, long want, long got) {
@@ -33,7 +43,7 @@ final class Check {
 
     private static void fail(String what, String want, String got) {
         wrong++;
-        System.out.println(what + ": due is " + want + ", the answer is " + got);
+        System.out.println(heading + what + ": due is " + want + ", the answer is " + got);
     }
 
     /** The call throws just this class, no subclass of the machine's, and changes nothing. */

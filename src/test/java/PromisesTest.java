@@ -1,11 +1,11 @@
 /** Each promise of the document by its number: ordinary inputs, edges, and wrong inputs. */
 public final class PromisesTest {
-    private static final int NONE = TickForms.NONE;
-    private static final Class<?> NO_SUCH = IndexOutOfBoundsException.class;
-    private static final Class<?> UNFIT = IllegalArgumentException.class;
-    private static final Class<?> NOT_NOW = IllegalStateException.class;
-    private static final int LEAST_INT = Integer.MIN_VALUE;
-    private static final int MOST_INT = Integer.MAX_VALUE;
+    private static final int NONE = Forms.NONE;
+    private static final Class<?> NO_SUCH = Forms.NO_SUCH;
+    private static final Class<?> UNFIT = Forms.UNFIT;
+    private static final Class<?> NOT_NOW = Forms.NOT_NOW;
+    private static final int LEAST_INT = Forms.LEAST_INT;
+    private static final int MOST_INT = Forms.MOST_INT;
 
     private PromisesTest() {
     }
@@ -45,18 +45,6 @@ public final class PromisesTest {
     }
 
     // ---- helpers
-
-    private static void type(TickForms x, String text) {
-        for (int i = 0; i < text.length(); i++) {
-            x.append(text.charAt(i));
-        }
-    }
-
-    private static TickForms typed(String text) {
-        TickForms x = new TickForms();
-        type(x, text);
-        return x;
-    }
 
     /** Promise 1's words as numbers: no boxes, nothing saved, all parts open, nothing written. */
     private static void dueEmpty(String what, TickForms x) {
@@ -333,7 +321,7 @@ public final class PromisesTest {
     }
 
     private static void clearBuffer() {
-        TickForms x = typed("1=2");
+        TickForms x = Forms.typed("1=2");
         Check.due("10 length", 3, x.clearBuffer());
         Check.due("10 empty", 0, x.clearBuffer());
         Check.due("10 from the start", 1, x.append('x'));
@@ -345,7 +333,7 @@ public final class PromisesTest {
         String[] good = {"", "0", "1", "9", "10", "15", "0=", "15=", "1=-", "1=0", "1=9", "1=99999",
             "15=12345,", "0=-,0=-,", "0=1,2=34,15=567,10=-,11=0", "12=10000,1"};
         for (String text : good) {
-            Check.due("11 " + text, text.length(), typed(text).firstError());
+            Check.due("11 " + text, text.length(), Forms.typed(text).firstError());
         }
         String[] bad = {"x", "=", "-", ",", "00", "01", "16", "19", "20", "95", "1-", "1,", "100",
             "150", "1==", "1=,", "1=x", "1=-1", "1=--", "1=-=", "1=00", "1=05", "1=0-", "1=123456",
@@ -353,15 +341,15 @@ public final class PromisesTest {
             "/", ":", "1/", "1:", "16=", "1=1/", "1=1:"};
         for (String text : bad) {
             int last = text.equals("16=") ? 1 : text.length() - 1;
-            Check.due("11 " + text, last, typed(text).firstError());
-            Check.due("11 the first of " + text, last, typed(text + "?=1").firstError());
+            Check.due("11 " + text, last, Forms.typed(text).firstError());
+            Check.due("11 the first of " + text, last, Forms.typed(text + "?=1").firstError());
         }
         StringBuilder full = new StringBuilder();
         for (int i = 0; i < 15; i++) {
             full.append("0=1,");
         }
-        Check.due("11 longer answers begin so", 60, typed(full.toString()).firstError());
-        TickForms x = typed("1=?");
+        Check.due("11 longer answers begin so", 60, Forms.typed(full.toString()).firstError());
+        TickForms x = Forms.typed("1=?");
         x.firstError();
         Check.due("11 changes nothing", 3, x.clearBuffer());
     }
@@ -375,7 +363,7 @@ public final class PromisesTest {
         for (int b = 4; b < 16; b++) {
             x.comb(1, 1);
         }
-        type(x, "0=99999,1=0,2=99,3=-,10=7,15=0");
+        Forms.type(x, "0=99999,1=0,2=99,3=-,10=7,15=0");
         Check.due("12 all", 6, x.fill());
         Check.due("12 cleared", 0, x.clearBuffer());
         long[] due = {99999, 0, 99, NONE, NONE, NONE, NONE, NONE, NONE, NONE, 7, NONE, NONE, NONE,
@@ -383,11 +371,11 @@ public final class PromisesTest {
         for (int b = 0; b < due.length; b++) {
             Check.due("12 answer " + b, due[b], x.box(b, 4));
         }
-        type(x, "0=1,0=-,0=20,10=-");
+        Forms.type(x, "0=1,0=-,0=20,10=-");
         Check.due("12 one after the other", 4, x.fill());
         Check.due("12 the last one counts", 20, x.box(0, 4));
         Check.due("12 emptied", NONE, x.box(10, 4));
-        type(x, "0=3,1=2,2=5");
+        Forms.type(x, "0=3,1=2,2=5");
         Check.due("12 up to one that does not fit", 1, x.fill());
         Check.due("12 before it", 3, x.box(0, 4));
         Check.due("12 not itself", 0, x.box(1, 4));
@@ -395,36 +383,36 @@ public final class PromisesTest {
         Check.due("12 cleared", 0, x.clearBuffer());
         x.undo();
         Check.due("12 undone as one call", 20, x.box(0, 4));
-        type(x, "3=0,0=3");
+        Forms.type(x, "3=0,0=3");
         Check.due("12 a total has no answer", 0, x.fill());
         x.drop();
-        type(x, "15=1,0=3");
+        Forms.type(x, "15=1,0=3");
         int saved = x.count(8);
         Check.due("12 no such box", 0, x.fill());
         Check.due("12 saved at most", saved, x.count(8));
     }
 
     private static void fillRefused() {
-        TickForms y = typed("0=1,0=2");
+        TickForms y = Forms.typed("0=1,0=2");
         Check.due("12 none given", 0, y.fill());
         Check.due("12 saved also then", 1, y.count(8));
         for (String text : new String[] {"", "1", "10", "1=", "1=1,", "1=1,1", "1=-,", "x", "1=01",
             "1=1,16=0", "1=1?", "1=-1", "01=1"}) {
-            TickForms x = typed(text);
+            TickForms x = Forms.typed(text);
             Check.refused(x, "12 fill of " + text, UNFIT, x::fill);
             Check.due("12 the text stays", text.length(), x.clearBuffer());
         }
         TickForms z = new TickForms();
         z.comb(0, 2);
         for (String text : new String[] {"0=-", "0=0", "0=5", "0=10", "0=99"}) {
-            type(z, text);
+            Forms.type(z, text);
             Check.due("12 complete " + text, 1, z.fill());
         }
-        type(z, "0=-,0=5,0=-");
+        Forms.type(z, "0=-,0=5,0=-");
         z.fill();
         Check.due("12 emptied at the end", NONE, z.box(0, 4));
         z.answer(0, 7);
-        type(z, "0=-");
+        Forms.type(z, "0=-");
         z.fill();
         Check.due("12 emptied at the start", NONE, z.box(0, 4));
     }
@@ -457,7 +445,7 @@ public final class PromisesTest {
         TickForms x = new TickForms();
         x.comb(1, 2);
         x.answer(0, 42);
-        type(x, "0=4");
+        Forms.type(x, "0=4");
         x.drop();
         x.total(2, 0);
         x.undo();
@@ -831,44 +819,15 @@ public final class PromisesTest {
         Check.dueShare("20 four of five", 0.8, x.filled());
     }
 
-    /** The hash, told by the public face as the promise says it. */
-    private static long hashOf(TickForms x, String buffer) {
-        long h = 3389;
-        for (int i = 0; i <= 8; i++) {
-            h = 31 * h + x.count(i);
-        }
-        for (int b = 0; b < x.count(0); b++) {
-            for (int i = 0; i <= 7; i++) {
-                h = 31 * h + x.box(b, i);
-            }
-            for (int i = 0; i <= 2 && x.box(b, 0) != 3; i++) {
-                h = 31 * h + x.ifAnswered(b, NONE, i);
-            }
-        }
-        for (int p = 0; p < 5; p++) {
-            for (int i = 0; i <= 5; i++) {
-                h = 31 * h + x.part(p, i);
-            }
-        }
-        h = 31 * h + x.shortest();
-        h = 31 * h + x.mostCarried();
-        h = 31 * h + Double.doubleToLongBits(x.filled());
-        h = 31 * h + buffer.length();
-        for (int i = 0; i < buffer.length(); i++) {
-            h = 31 * h + buffer.charAt(i);
-        }
-        return h;
-    }
-
     private static void digest() {
-        Check.due("21 new", hashOf(new TickForms(), ""), new TickForms().digest());
+        Check.due("21 new", Forms.hashOf(new TickForms(), ""), new TickForms().digest());
         for (int all = 1; all <= 16; all++) {
             TickForms x = new TickForms();
             for (int b = 0; b < all; b++) {
                 x.comb(0, 1);
             }
             for (int b = 0; b <= all; b++) {
-                Check.due("21 " + b + " of " + all, hashOf(x, ""), x.digest());
+                Check.due("21 " + b + " of " + all, Forms.hashOf(x, ""), x.digest());
                 if (b < all) {
                     x.answer(b, b % 10);
                 }
@@ -877,19 +836,19 @@ public final class PromisesTest {
     }
 
     private static void digestOfState() {
-        TickForms x = typed("1=~");
+        TickForms x = Forms.typed("1=~");
         x.tick(0, 1);
         x.comb(1, 5);
         x.total(2, 2);
         x.skip(1, 3, 9);
         x.answer(1, 99999);
-        Check.due("21 a form", hashOf(x, "1=~"), x.digest());
+        Check.due("21 a form", Forms.hashOf(x, "1=~"), x.digest());
         x.answer(0, 1);
-        Check.due("21 opened", hashOf(x, "1=~"), x.digest());
+        Check.due("21 opened", Forms.hashOf(x, "1=~"), x.digest());
         x.clearBuffer();
-        Check.due("21 without the text", hashOf(x, ""), x.digest());
+        Check.due("21 without the text", Forms.hashOf(x, ""), x.digest());
         x.undo();
-        Check.due("21 undone", hashOf(x, ""), x.digest());
+        Check.due("21 undone", Forms.hashOf(x, ""), x.digest());
         long before = x.digest();
         Check.due("21 the same again", before, x.digest());
     }
