@@ -6,9 +6,12 @@ import java.lang.reflect.Modifier;
 import java.nio.charset.StandardCharsets;
 import java.nio.file.Files;
 import java.nio.file.Path;
+import java.util.ArrayList;
 import java.util.Arrays;
 import java.util.List;
+import java.util.Map;
 import java.util.Set;
+import java.util.TreeMap;
 import java.util.TreeSet;
 import java.util.regex.Matcher;
 import java.util.regex.Pattern;
@@ -27,7 +30,10 @@ public final class LanguageTest {
     public static void main(String[] args) throws IOException {
         face();
         hidden();
-        words(code(Files.readString(Path.of(SOURCE), StandardCharsets.ISO_8859_1)));
+        String code = code(Files.readString(Path.of(SOURCE), StandardCharsets.ISO_8859_1));
+        words(code);
+        methods(code);
+        classes();
         Check.end("LanguageTest");
     }
 
@@ -126,5 +132,72 @@ public final class LanguageTest {
         }
         Check.same("indexes, lengths", "[new Form[MOST_SAVED], new int[MOST_BOXES], "
             + "new int[MOST_SIGNS], row[index], states[i], states[index]]", indexes.toString());
+    }
+
+    // ---- rules 5, 6, 8 and 11: how long, how deep, how many
+
+    /** Methods by name: those that bear one name count as one, which can only tell too much. */
+    private static void methods(String code) {
+        Map<String, Set<String>> calls = new TreeMap<>();
+        Map<String, String> bodies = new TreeMap<>();
+        Matcher method = Pattern.compile("(?ms)^( {4}| {8})((?:public|private) [^=;{}]*?(\\w+)"
+            + "\\(([^)]*)\\)[^;{}]*\\{.*?^\\1\\})").matcher(code);
+        while (method.find()) {
+            String name = method.group(3);
+            Check.same(name + " is short", "true", "" + (method.group(2).lines().count() <= 60));
+            Check.same(name + " has few parameters", "true",
+                "" + (method.group(4).split(",").length <= 7));
+            String body = method.group(2).substring(method.group(2).indexOf('{'));
+            bodies.merge(name, body, String::concat);
+            boolean made = method.group(2).matches("(?s)(public |private )" + name + "\\(.*");
+            Check.same(name + " is a constructor with a throw", "false",
+                "" + (made && body.contains("throw ")));
+        }
+        for (String name : bodies.keySet()) {
+            Set<String> called = new TreeSet<>();
+            Matcher call = Pattern.compile("(Math\\.|Integer\\.|new )?(\\w+)\\(")
+                .matcher(bodies.get(name));
+            while (call.find()) {
+                if (call.group(1) == null && bodies.containsKey(call.group(2))) {
+                    called.add(call.group(2));
+                }
+            }
+            calls.put(name, called);
+        }
+        Check.same("the methods were found", "true", "" + calls.keySet().containsAll(
+            List.of("digest", "shortest", "openParts", "stateAfter", "restore")));
+        for (String name : calls.keySet()) {
+            Check.same(name + " goes at most eight calls deep", "true",
+                "" + (depth(calls, name, 0) <= 8));
+        }
+    }
+
+    /** A method that calls itself, by whatever way, is deeper than any bound. */
+    private static int depth(Map<String, Set<String>> calls, String name, int above) {
+        if (above > 8) {
+            return 0;
+        }
+        int below = 0;
+        for (String called : calls.get(name)) {
+            below = Math.max(below, depth(calls, called, above + 1));
+        }
+        return below + 1;
+    }
+
+    private static void classes() {
+        Class<?>[] inner = TickForms.class.getDeclaredClasses();
+        Check.same("few classes", "true", "" + (inner.length + 1 <= 12));
+        List<Class<?>> all = new ArrayList<>(List.of(inner));
+        all.add(TickForms.class);
+        for (Class<?> it : all) {
+            long fields = Arrays.stream(it.getDeclaredFields())
+                .filter(f -> !Modifier.isStatic(f.getModifiers())).count();
+            Check.same("few fields in " + it, "true", "" + (fields <= 20));
+            for (Field f : it.getDeclaredFields()) {
+                boolean kept = !Modifier.isStatic(f.getModifiers())
+                    || Modifier.isFinal(f.getModifiers());
+                Check.same("no static state: " + f, "true", "" + kept);
+            }
+        }
     }
 }
